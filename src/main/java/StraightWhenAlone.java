@@ -885,14 +885,14 @@ public final class StraightWhenAlone {
             goal = wanted;
             steps[0].copyFrom(from);
             for (int size = 0; size <= MOST_WALKS; size++) {
-                if (reaches(this, on, 0, size)) {
+                if (isReached(this, on, 0, size)) {
                     return size;
                 }
             }
             return NONE;
         }
 
-        private static boolean reaches(Search s, Moor on, int level, int size) {
+        private static boolean isReached(Search s, Moor on, int level, int size) {
             if (level >= size || level >= MOST_WALKS) {
                 return s.isMet(s.steps[level]);
             }
@@ -904,7 +904,7 @@ public final class StraightWhenAlone {
                 for (int t = 0; t < on.things; t++) {
                     next.copyFrom(s.steps[level]);
                     // a walk that bends nothing is in no shortest row
-                    if (next.bendBy(on, w, t) > 0 && reaches(s, on, level + 1, size)) {
+                    if (next.bendBy(on, w, t) > 0 && isReached(s, on, level + 1, size)) {
                         s.row[level] = 10 * w + t;
                         return true;
                     }
