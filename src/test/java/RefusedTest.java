@@ -85,12 +85,12 @@ final class RefusedTest {
         List<Integer> told = new ArrayList<>();
         tellMoor(x, told);
         tellRoad(x, told);
-        for (int left = 9; left >= 0; ) {
+        for (int k = 0, left = 0; k < 10 && left >= 0; k++) {
             left = x.undo();
             told.add(left);
             tellRoad(x, told);
         }
-        for (int left = 9; left >= 0; ) {
+        for (int k = 0, left = 0; k < 4 && left >= 0; k++) {
             left = x.back();
             told.add(left);
             tellRoad(x, told);
